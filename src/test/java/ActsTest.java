@@ -32,11 +32,13 @@ public final class ActsTest {
 
     private static void exchanging() {
         NeedCode x = Check.of("a+(b*c)-d");
+        C.due("line(0, 2)", x.line(0, 2), 1);
         // a+(b*c) goes by WAY 4: 7, and 2
         C.due("cost", x.cost(6, 3), 9);
         C.due("exchange(4)", x.exchange(4), 9);
         sameAs(x, "(b*c)+a-d");
         C.due("way(4, 3)", x.way(4, 3), 3);
+        C.due("line(0, 2)", x.line(0, 2), 0);
         C.due("exchange(2)", x.exchange(2), 9);
         sameAs(x, "(c*b)+a-d");
         C.due("exchange(4)", x.exchange(4), 9);

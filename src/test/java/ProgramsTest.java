@@ -45,6 +45,17 @@ public final class ProgramsTest {
         C.lines("way 2", x, "0 0 3 1 2", "2 0 5 1 3", "0 1 6 1 4", "2 1 8 1 5", "1 0 9 0 1",
                 "0 1 0 1 0", "2 1 2 1 1", "1 0 10 1 0");
         C.due("program(2, 2)", x.program(2, 2), 17);
+        // l in register 1 by one less: it goes through a cell there
+        NeedCode v = Check.of("(a-(b-c))-(((a-b)-(c-d))-((e-f)-(g-h)))");
+        v.machine(2, 3, 3, 1, 2);
+        priced(v, 4, 2, 9, 1);
+        priced(v, 4, 1, 13, 3);
+        // 1: 11 + 15 + 1; 3: 14 + 11 + 2
+        priced(v, 19, 2, 27, 1);
+        // 1: 9 + 35 + 1; 2: 27 + 13 + 1; 3: 30 + 9 + 2
+        priced(v, 20, 2, 41, 2);
+        C.due("lines of way 2", v.program(2, 0), 18);
+        C.due("cells of way 2", v.program(2, 1), 2);
         // both may trap: not WAY 2, not WAY 3
         NeedCode y = Check.of("(a/b)-((c/d)-(e/f))");
         y.machine(2, 3, 3, 1, 2);
@@ -148,7 +159,7 @@ public final class ProgramsTest {
         C.due("no tree: run(-1)", x.run(-1), NeedCode.STATE);
         C.due("no tree: fewest()", x.fewest(), NeedCode.STATE);
         Check.read(x, "((a-b)-(c-d))-((e-f)-(g-h))");
-        // by 1: 15 and 3 kept, 15, 2; by 2: r kept 14, l 11, 2; by 3: 11 + 11 + 1
+        // by 1: r kept 18, l 15, 2; by 2: l 11, r by 1 15, 1; by 3: 11 + 11 + 1
         int[][] want = {{14, 3, 35}, {12, 1, 27}, {11, 0, 23}};
         for (int i = 1; i <= 3; i++) {
             for (int what = 0; what < 3; what++) {
@@ -197,6 +208,8 @@ public final class ProgramsTest {
         for (int n = 0; n < want.length; n++) {
             ran(x, n, want[n]);
         }
+        ran(x, 0, 0);
+        ran(x, 8, 28);
         C.due("run(9)", x.run(9), NeedCode.BAD);
         C.due("run(-1)", x.run(-1), NeedCode.BAD);
         C.due("asked() as before", x.asked(), 28);

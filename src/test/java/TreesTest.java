@@ -8,6 +8,7 @@ public final class TreesTest {
         clearing();
         reading();
         faults();
+        faultsAndThen();
         nodeLimit();
         readAnew();
         nodes();
@@ -152,6 +153,16 @@ public final class TreesTest {
         fault("123456789012345678901234567890", 0);
         fault("((((((((((((((((((((((((((((((((((((((((((((((((((((((((((((", 60);
         fault("~~~~~~~~~~~~~~~~~~~~~~~~~~~~~~~~~~~~~~~~~~~~~~~~~~~~~~~~~~~~", 60);
+    }
+
+    private static void faultsAndThen() {
+        NeedCode x = new NeedCode();
+        for (String text : new String[] {"((a+b", "a*(b+", "~~~;", "a-b*c/", ")"}) {
+            C.holds(text + " is refused", Check.read(x, text) <= -10);
+            x.clear();
+        }
+        C.due("then a tree", Check.read(x, "a-b*c"), 5);
+        C.holds("a-b*c", told(x).equals("a b c * -"));
     }
 
     private static void nodeLimit() {
