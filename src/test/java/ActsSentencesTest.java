@@ -159,6 +159,28 @@ public final class ActsSentencesTest {
         C.due("undo() of let", x.undo(), 0);
         C.due("a", valueOf(x, 0), 0);
         C.due("none is left", x.undo(), NeedCode.STATE);
+        // whatever is told of the tree is as before
+        NeedCode z = Check.of("b*a-d*(a*b)");
+        for (int times = 0; times < 2; times++) {
+            C.rowIs("before", "4 0 1 4", z.way(7, 3), z.count(6), z.line(0, 4), z.line(2, 2));
+            z.exchange(2);
+            C.rowIs("exchanged", "4 1 0 4", z.way(7, 3), z.count(6), z.line(0, 4), z.line(2, 2));
+            z.exchange(7);
+            C.rowIs("exchanged", "3 1 0 3", z.way(7, 3), z.count(6), z.line(0, 4), z.line(2, 2));
+            z.undo();
+            C.rowIs("undone", "4 1 0 4", z.way(7, 3), z.count(6), z.line(0, 4), z.line(2, 2));
+            z.undo();
+            z.machine(3, 9, 8, 7, 6);
+            C.rowIs("by another machine", "43 15 0", z.cost(8, 3), z.cost(2, 3), z.cheapest(1));
+            z.undo();
+            C.rowIs("undone", "13 5 0", z.cost(8, 3), z.cost(2, 3), z.cheapest(1));
+            z.let(0, 6);
+            z.let(0, 7);
+            z.undo();
+            C.due("a", valueOf(z, 1), 6);
+            z.undo();
+            C.due("a", valueOf(z, 1), 0);
+        }
         // without a tree as well
         NeedCode y = new NeedCode();
         y.machine(2, 2, 2, 2, 2);
@@ -274,6 +296,11 @@ public final class ActsSentencesTest {
         shared(Check.of("~b-~a-~a-~b"), "1 2", "3 2");
         shared(Check.of("~a+~b+~c+~d-~d-~c-~b-~a"), "1 2", "3 2", "6 2", "9 2");
         shared(Check.of("~a+~b+~c+~d+~e-~e-~d-~c-~b-~a"), "1 2", "3 2", "6 2", "9 2", "12 2");
+        // of this tree, not of a greater one ahead of it
+        NeedCode x = Check.of("a-(~b-~b)");
+        shared(x, "2 2");
+        Check.read(x, "a-~b");
+        shared(x);
         // a sixth one
         shared(Check.of("~~~~~~a-~~~~~~a"), "1 2", "2 2", "3 2", "4 2", "5 2");
         shared(Check.of("~~~~~a*b-~~~~~a*b"), "1 2", "2 2", "3 2", "4 2", "5 2");

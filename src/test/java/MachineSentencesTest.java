@@ -236,6 +236,11 @@ public final class MachineSentencesTest {
         C.lines("a NUMBER", Check.of("99"), "0 0 0 0 99");
         C.lines("~", Check.of("~~5"), "0 0 0 0 5", "1 0 1 0 0", "1 0 2 0 0");
         C.lines("~ in register 1", Check.of("(a-b)-~c"), "0 0 0 1 0", "2 0 2 1 1", "0 1 3 1 2", "1 1 4 1 1", "1 0 5 0 1");
+        // as deep as it gets
+        NeedCode x = Check.of("~".repeat(30) + "h");
+        C.due("31 LINES", x.program(3, 0), 31);
+        C.holds("the first one", Check.line(x, 0).equals("0 0 0 1 7"));
+        C.holds("the last one", Check.line(x, 30).equals("1 0 30 0 0"));
         // by all: by 1 it would go through a cell
         C.lines("by all", by(2, 3, 3, 1, 2, "a-(b-c)"), "0 0 0 1 0", "0 1 1 1 1", "2 1 3 1 2", "1 0 4 0 1");
         C.lines("by all", by(1, 3, 3, 1, 2, "a-(b-c)"), "0 0 1 1 1", "2 0 3 1 2", "3 0 3 2 0", "0 0 0 1 0", "2 0 4 2 0");
@@ -265,6 +270,14 @@ public final class MachineSentencesTest {
         C.due("way of r by 2", x.way(17, 2), 2);
         C.due("way of the ROOT", x.way(18, 3), 1);
         C.holds("in 1 and 2", Check.line(x, 12).equals("1 1 17 2 1"));
+        // l in 1 by 2 of 3: a WAY 1 of its own from 1 and 2; 1 is 11, 27, 1
+        NeedCode w = by(3, 3, 3, 1, 2, "((a-b)-(c-d))-(((e-f)-(g-h))-((a-c)-(b-d)))");
+        rootPriced(w, 3, 35, 2);
+        String[] end = {"0 1 0 1 0", "2 1 2 1 1", "0 2 3 1 2", "2 2 5 1 3", "1 1 6 1 2", "1 0 22 1 0"};
+        C.due("lines", w.program(3, 0), 17);
+        for (int j = 0; j < end.length; j++) {
+            C.holds("by 2 of 3, line " + (11 + j) + " is " + Check.line(w, 11 + j), Check.line(w, 11 + j).equals(end[j]));
+        }
         // l in 1 by 1: through a cell there; 0 a 1 b 2 c 3 - 4 -
         NeedCode y = by(2, 3, 3, 1, 2, "(a-(b-c))-(((a-b)-(c-d))-((e-f)-(g-h)))");
         C.due("way of the ROOT", y.way(20, 2), 2);

@@ -83,6 +83,15 @@ public final class PromiseSentencesTest {
         Check.type(x, "b");
         x.clear();
         C.shapeIs("7", x);
+        // nothing of it is read later, not even by a shorter one
+        Check.type(x, "12345");
+        x.clear();
+        C.due("1", Check.read(x, "1"), 1);
+        C.shapeIs("1", x);
+        Check.type(x, "a*b;");
+        x.clear();
+        C.due("c", Check.read(x, "c"), 1);
+        C.shapeIs("c", x);
     }
 
     @Says("THE TEXT is the tree, and is empty then: how many NODES. -10 less FAULT: nothing changes.")
@@ -106,6 +115,15 @@ public final class PromiseSentencesTest {
         C.due("a+b", x.tree(), 3);
         C.shapeIs("(a+b)", x);
         C.due("the greatest FAULT", Check.read(x, "(".repeat(60)), -70);
+        x.clear();
+        // however often a text is refused, a later one is read as it is
+        Check.type(x, "a-(b-(c-d");
+        for (int times = 0; times < 40; times++) {
+            C.due("a-(b-(c-d", x.tree(), -19);
+        }
+        Check.type(x, "))");
+        C.due("a-(b-(c-d))", x.tree(), 7);
+        C.shapeIs("(a-(b-(c-d)))", x);
     }
 
     // ---- 5 node
@@ -313,6 +331,15 @@ public final class PromiseSentencesTest {
             C.due("run(" + n + ")", y.run(n), 1);
             C.due("asked() behind " + n, y.asked(), stored[n]);
         }
+        // by all six registers: a to f are loaded to 0 to 5
+        NeedCode z = by(6, 1, 9, 1, 1, "a-(b-(c-(d-(e-(f-7)))))");
+        for (int name = 0; name < 6; name++) {
+            z.let(name, 1 << 2 * name);
+        }
+        C.rowIs("its lines, its cells", "12 0", z.program(6, 0), z.program(6, 1));
+        C.rowIs("the sixth register", "0 5", z.line(5, 0), z.line(5, 1));
+        C.due("run(12)", z.run(12), 1);
+        C.due("asked()", z.asked(), 1 - 4 + 16 - 64 + 256 - 1024 + 7);
         // NAMES as they stand now
         y.let(0, 1);
         C.due("run(5)", y.run(5), 1);
@@ -463,6 +490,19 @@ public final class PromiseSentencesTest {
         }
         C.due("none", x.undo(), STATE);
         C.due("none", x.undo(), STATE);
+        // each of the ten can be of any kind and any NAME
+        Check.read(x, "a+~h");
+        for (int round = 0; round < 10; round++) {
+            for (int act = 0; act < 10 + round; act++) {
+                x.let(7, act);
+            }
+            x.exchange(3);
+            x.undo();
+            C.shapeIs("(a+~h)", x);
+            x.undo();
+            x.value(1);
+            C.due("h", x.asked(), 8 + round);
+        }
         // what is undone can't be undone again, nor done again
         Check.read(x, "a+b");
         x.exchange(2);

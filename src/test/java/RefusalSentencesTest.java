@@ -31,13 +31,14 @@ public final class RefusalSentencesTest {
             told.add(x.trapped());
         }
         tellNames(x, told);
-        told.add(x.tree());
-        told.add(x.clear());
         for (int image = 0; image <= 1; image++) {
             told.add(x.back(image));
             tellTree(x, told);
             tellNames(x, told);
         }
+        told.add(x.tree());
+        told.add(x.clear());
+        tellTree(x, told);
         return told;
     }
 

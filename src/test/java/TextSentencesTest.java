@@ -211,6 +211,8 @@ public final class TextSentencesTest {
         fault("(a)b", 3);
         fault("(a)5", 3);
         fault(")a(", 0);
+        fault("a)", 1);
+        fault("(a))", 3);
         fault("[a]", 0);
     }
 
@@ -285,9 +287,17 @@ public final class TextSentencesTest {
         x.clear();
         C.due("31 nodes behind 32", Check.read(x, FIFTEEN + "+h"), 31);
         C.due("31 nodes again", Check.read(x, FIFTEEN + "*h"), 31);
-        C.due("the last one", x.node(30, 0), '+');
         C.due("no 32nd", x.node(31, 0), NeedCode.BAD);
-        C.due("its value", x.value(30), 1);
+        // all is told of the 31st too: 16 LEAVES, 15 operators
+        NeedCode y = Check.of("a-b+(c-d)+(e-f)+(g-h)+(a-b)+(c-d)+(e-f)#(g-h)");
+        C.rowIs("the 31st", "35 0 26 29 2 2 1 31 30", y.node(30, 0), y.node(30, 1), y.node(30, 2), y.node(30, 3), y.node(30, 4),
+                y.node(30, 5), y.node(30, 6), y.node(30, 7), y.node(30, 8));
+        y.let(0, 100);
+        C.due("its value", y.value(30), 1);
+        C.due("what it comes to", y.asked(), 200);
+        C.due("its cost", y.cost(30, 3), 47);
+        C.due("its way", y.way(30, 3), 1);
+        C.due("its lines", y.program(3, 0), 23);
     }
 
     @Says("FAULT: the place of the first letter that can't stand there (behind blanks;")
@@ -610,5 +620,8 @@ public final class TextSentencesTest {
         least("(a+(b-c))*(d+(e-f))", 1, 1, 0, 1, 1, 1, 1, 0, 1, 1, 2);
         least("(a/b)#(c/d)", 1, 0, 1, 1, 0, 1, 2);
         least("(a-(b-c))+d", 1, 1, 0, 1, 2, 0, 2);
+        least("a+((b-c)-(d-e))", 1, 1, 0, 1, 1, 0, 1, 2, 2);
+        least("a+(b+(c-d))", 1, 1, 1, 0, 1, 1, 1);
+        least("((a-b)-(c-d))-(e+(f-g))", 1, 0, 1, 1, 0, 1, 2, 1, 1, 0, 1, 1, 2);
     }
 }
