@@ -224,6 +224,20 @@ public final class ActsSentencesTest {
             C.due("a", valueOf(x, 0), back[at]);
         }
         C.due("none is left", x.undo(), NeedCode.STATE);
+        // each of ten machines in a row comes back whole, the oldest one too, wherever the row begins
+        for (int ahead = 0; ahead < 10; ahead++) {
+            NeedCode z = new NeedCode();
+            for (int v = 0; v < ahead; v++) {
+                z.let(0, v);
+            }
+            for (int at = 0; at <= 10; at++) {
+                z.machine(1 + at % 6, 1 + at % 9, 1 + (at + 2) % 9, 1 + (at + 4) % 9, 1 + (at + 6) % 9);
+            }
+            for (int at = 9; at >= 0; at--) {
+                C.due("undo()", z.undo(), at);
+                machineIs(z, Check.row(1 + at % 6, 1 + at % 9, 1 + (at + 2) % 9, 1 + (at + 4) % 9, 1 + (at + 6) % 9));
+            }
+        }
         // of all kinds: the machines 1 to 5 stand for whole rounds of three
         NeedCode y = Check.of("a+b");
         for (int round = 1; round <= 5; round++) {

@@ -1,23 +1,30 @@
+import java.util.ArrayList;
+import java.util.List;
 import java.util.Random;
+import java.util.function.Consumer;
 
-/** Long runs of calls on the class and on the model, side by side; the seeds are fixed. */
+/** Long runs of calls on the class and on the model, side by side; the seeds are fixed. No object has more than 512 calls. */
 public final class ModelTest {
     private static final Check CHECK = new Check("ModelTest");
     private static final int[] INTS = {
         0, 1, -1, 2, 3, 7, -5, 99, 1000, Integer.MAX_VALUE, Integer.MIN_VALUE, 1 << 30, -(1 << 30), 65536, 46341
     };
 
+    private static final int CALL_LIMIT = 512;
+
     private final Random random;
-    private final NeedCode x = new NeedCode();
     private final Model model = new Model();
+    private final List<Consumer<NeedCode>> past = new ArrayList<>();
+    private NeedCode x = new NeedCode();
+    private int made;
 
     private ModelTest(long seed) {
         random = new Random(seed);
     }
 
     public static void main(String[] args) {
-        for (int seed = 0; seed < 700; seed++) {
-            new ModelTest(seed).calls(500);
+        for (int seed = 0; seed < 3000; seed++) {
+            new ModelTest(seed).calls();
         }
         for (int seed = 0; seed < 500; seed++) {
             new ModelTest(seed + 10_000).wholeTree();
@@ -29,7 +36,19 @@ public final class ModelTest {
     }
 
     private void due(String call, int got, int want) {
+        made++;
         CHECK.due(call, got, want);
+    }
+
+    /** Another object with the same past takes over where one has had nearly all its calls. */
+    private void makeRoom(int calls) {
+        if (made + calls > CALL_LIMIT) {
+            x = new NeedCode();
+            made = past.size();
+            for (Consumer<NeedCode> call : past) {
+                call.accept(x);
+            }
+        }
     }
 
     // ---- texts
@@ -93,13 +112,16 @@ public final class ModelTest {
     private void type(String text) {
         for (int at = 0; at < text.length(); at++) {
             int letter = text.charAt(at);
+            past.add(other -> other.type(letter));
             due("type(" + letter + ")", x.type(letter), model.type(letter));
         }
     }
 
     private void read(String text) {
+        past.add(NeedCode::clear);
         due("clear()", x.clear(), model.clear());
         type(text);
+        past.add(NeedCode::tree);
         due("tree() of " + text, x.tree(), model.tree());
     }
 
@@ -109,14 +131,20 @@ public final class ModelTest {
         return random.nextInt(most + 3) - 1;
     }
 
-    private void calls(int times) {
-        for (int call = 0; call < times; call++) {
-            switch (random.nextInt(14)) {
-                case 0: read(random.nextInt(4) == 0 ? spoiled(anyText()) : anyText()); break;
-                case 1: act(); break;
-                case 2: act(); break;
-                case 3: image(); break;
-                default: ask(); break;
+    private void calls() {
+        if (random.nextInt(5) > 0) {
+            read(anyText());
+        }
+        while (made <= CALL_LIMIT - 72) {
+            int lot = random.nextInt(60);
+            if (lot == 0) {
+                read(random.nextInt(3) == 0 ? spoiled(anyText()) : anyText());
+            } else if (lot < 18) {
+                act();
+            } else if (lot < 21) {
+                image();
+            } else {
+                ask();
             }
             due("asked()", x.asked(), model.asked());
             due("trapped()", x.trapped(), model.trapped());
@@ -143,6 +171,7 @@ public final class ModelTest {
         if (random.nextInt(8) == 0) {
             m[random.nextInt(5)] = random.nextInt(12);
         }
+        past.add(other -> other.machine(m[0], m[1], m[2], m[3], m[4]));
         due("machine(..)", x.machine(m[0], m[1], m[2], m[3], m[4]), model.machine(m));
     }
 
@@ -178,13 +207,17 @@ public final class ModelTest {
     private void wholeTree() {
         read(anyText());
         machine();
-        for (int name = 0; name < 8; name++) {
+        for (int each = 0; each < 8; each++) {
+            int name = each;
             int v = random.nextInt(3) == 0 ? INTS[random.nextInt(INTS.length)] : random.nextInt(9) - 2;
+            past.add(other -> other.let(name, v));
             due("let", x.let(name, v), model.let(name, v));
         }
         tellAll();
+        makeRoom(CALL_LIMIT);
         for (int times = 0; times < 4; times++) {
             int k = random.nextInt(31);
+            past.add(other -> other.exchange(k));
             due("exchange(" + k + ")", x.exchange(k), model.exchange(k));
         }
         tellAll();
@@ -192,6 +225,7 @@ public final class ModelTest {
 
     private void tellAll() {
         for (int k = -1; k <= model.count(0); k++) {
+            makeRoom(40);
             for (int what = -1; what <= 9; what++) {
                 due("node(" + k + ", " + what + ")", x.node(k, what), model.node(k, what));
             }
@@ -199,10 +233,9 @@ public final class ModelTest {
                 due("cost(" + k + ", " + i + ")", x.cost(k, i), model.cost(k, i));
                 due("way(" + k + ", " + i + ")", x.way(k, i), model.way(k, i));
             }
-            due("value(" + k + ")", x.value(k), model.value(k));
-            due("asked()", x.asked(), model.asked());
-            due("trapped()", x.trapped(), model.trapped());
+            tell("value(" + k + ")", x.value(k), model.value(k));
         }
+        makeRoom(90);
         for (int i = 0; i <= 7; i++) {
             for (int what = -1; what <= 3; what++) {
                 due("program(" + i + ", " + what + ")", x.program(i, what), model.program(i, what));
@@ -214,12 +247,21 @@ public final class ModelTest {
         due("cheapest(1)", x.cheapest(1), model.cheapest(1));
         int lines = model.program(model.count(1), 0);
         for (int j = -1; j <= lines + 1; j++) {
+            makeRoom(20);
             for (int what = -1; what <= 5; what++) {
                 due("line(" + j + ", " + what + ")", x.line(j, what), model.line(j, what));
             }
-            due("run(" + j + ")", x.run(j), model.run(j));
-            due("asked()", x.asked(), model.asked());
-            due("trapped()", x.trapped(), model.trapped());
+            tell("run(" + j + ")", x.run(j), model.run(j));
+        }
+    }
+
+    /** What a call told: of an object that took over, only what this one did is known. */
+    private void tell(String call, int got, int want) {
+        due(call, got, want);
+        if (want == 1) {
+            due("asked() behind " + call, x.asked(), model.asked());
+        } else if (want == Model.TRAP) {
+            due("trapped() behind " + call, x.trapped(), model.trapped());
         }
     }
 
@@ -233,6 +275,9 @@ public final class ModelTest {
             }
             for (int braces = random.nextInt(4); braces > 0; braces--) {
                 text.insert(0, "(").append(")");
+            }
+            if (made + 66 > CALL_LIMIT) {
+                return;
             }
             read(random.nextBoolean() ? spoiled(text.toString()) : text.toString());
             due("count(0)", x.count(0), model.count(0));

@@ -298,6 +298,12 @@ public final class TextSentencesTest {
         C.due("its cost", y.cost(30, 3), 47);
         C.due("its way", y.way(30, 3), 1);
         C.due("its lines", y.program(3, 0), 23);
+        y.machine(6, 3, 3, 1, 2);
+        for (int i = 2; i <= 6; i++) {
+            C.rowIs("by " + i, "47 1 23 47", y.cost(30, i), y.way(30, i), y.program(i, 0), y.program(i, 2));
+        }
+        C.due("run by 6", y.run(23), 1);
+        C.due("what it comes to", y.asked(), 200);
     }
 
     @Says("FAULT: the place of the first letter that can't stand there (behind blanks;")
