@@ -1,9 +1,11 @@
+import java.io.DataInputStream;
 import java.io.IOException;
 import java.lang.reflect.Field;
 import java.lang.reflect.Method;
 import java.lang.reflect.Modifier;
 import java.nio.file.Files;
 import java.nio.file.Path;
+import java.util.ArrayList;
 import java.util.HashSet;
 import java.util.List;
 import java.util.Set;
@@ -17,6 +19,8 @@ public final class LanguageTest {
     private static final Set<String> FACE = Set.of("type", "clear", "tree", "node", "value", "cost", "way", "program",
             "line", "run", "fewest", "exchange", "let", "machine", "undo", "shared", "cheapest", "keep", "back", "asked",
             "trapped", "count");
+    private static final Set<String> LIBRARY = Set.of("java/lang/Object.<init>", "java/lang/Math.max", "java/lang/Math.min",
+            "java/lang/System.arraycopy");
 
     public static void main(String[] args) throws IOException {
         face();
@@ -24,7 +28,12 @@ public final class LanguageTest {
             C.holds(inner + " is static", Modifier.isStatic(inner.getModifiers()));
             C.holds(inner + " is not public", !Modifier.isPublic(inner.getModifiers()));
             members(inner);
+            library(inner);
+            for (Method method : inner.getDeclaredMethods()) {
+                C.holds(method + " has a name of its own", !FACE.contains(method.getName()));
+            }
         }
+        library(NeedCode.class);
         C.holds("at most twelve classes", NeedCode.class.getDeclaredClasses().length < 12);
         source(Files.readString(Path.of("src/main/java/NeedCode.java")));
         C.end();
@@ -67,6 +76,48 @@ public final class LanguageTest {
         C.holds(type + " has at most twenty fields", held <= 20);
         for (Method method : type.getDeclaredMethods()) {
             C.holds(method + " takes at most seven", method.getParameterCount() <= 7);
+        }
+    }
+
+    /** What a compiled class takes from outside stands in its table of constants. */
+    private static void library(Class<?> type) throws IOException {
+        for (String taken : takenBy(type)) {
+            boolean own = taken.startsWith("NeedCode.") || taken.startsWith("NeedCode$");
+            C.holds(type + " may use " + taken, own || LIBRARY.contains(taken));
+        }
+    }
+
+    private static Set<String> takenBy(Class<?> type) throws IOException {
+        try (DataInputStream in = new DataInputStream(type.getResourceAsStream("/" + type.getName() + ".class"))) {
+            in.readInt();
+            in.readInt();
+            int length = in.readUnsignedShort();
+            String[] texts = new String[length];
+            int[] firsts = new int[length];
+            int[] seconds = new int[length];
+            List<Integer> members = new ArrayList<>();
+            for (int at = 1; at < length; at++) {
+                int tag = in.readUnsignedByte();
+                switch (tag) {
+                    case 1: texts[at] = in.readUTF(); break;
+                    case 3: case 4: in.readInt(); break;
+                    case 5: case 6: in.readLong(); at++; break;
+                    case 7: case 8: firsts[at] = in.readUnsignedShort(); break;
+                    case 9: case 10: case 11: case 12:
+                        firsts[at] = in.readUnsignedShort();
+                        seconds[at] = in.readUnsignedShort();
+                        break;
+                    default: throw new IOException(type + " has a constant of kind " + tag + ": a lambda, or texts joined by +");
+                }
+                if (tag >= 9 && tag <= 11) {
+                    members.add(at);
+                }
+            }
+            Set<String> taken = new TreeSet<>();
+            for (int at : members) {
+                taken.add(texts[firsts[firsts[at]]] + "." + texts[firsts[seconds[at]]]);
+            }
+            return taken;
         }
     }
 

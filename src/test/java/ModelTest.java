@@ -32,6 +32,7 @@ public final class ModelTest {
         for (int seed = 0; seed < 500; seed++) {
             new ModelTest(seed + 20_000).faults();
         }
+        everyShortText();
         CHECK.end();
     }
 
@@ -262,6 +263,22 @@ public final class ModelTest {
             due("asked() behind " + call, x.asked(), model.asked());
         } else if (want == Model.TRAP) {
             due("trapped() behind " + call, x.trapped(), model.trapped());
+        }
+    }
+
+    /** Every text of up to five letters of each kind that there is. */
+    private static void everyShortText() {
+        String letters = " ()~019a+*;";
+        int texts = 1;
+        for (int length = 0; length <= 5; length++) {
+            for (int number = 0; number < texts; number++) {
+                StringBuilder text = new StringBuilder();
+                for (int rest = number; text.length() < length; rest /= letters.length()) {
+                    text.append(letters.charAt(rest % letters.length()));
+                }
+                new ModelTest(0).read(text.toString());
+            }
+            texts *= letters.length();
         }
     }
 
