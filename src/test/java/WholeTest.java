@@ -42,11 +42,12 @@ public final class WholeTest {
         C.end();
     }
 
+    /** Some come out with more letters or NODES than there may be. */
     private String textOf(String operators) {
         String made = "a";
         for (int tries = 0; tries < 20; tries++) {
             made = expression(1 + random.nextInt(14), operators);
-            if (made.length() <= 60) {
+            if (made.length() <= 60 && Check.of(made).count(0) > 0) {
                 return made;
             }
         }
